@@ -22,6 +22,7 @@ public final class ListTest {
         noSuchThings();
         listKeepsItsValues();
         deepest();
+        longestStep();
         Check.end();
     }
 
@@ -247,16 +248,23 @@ public final class ListTest {
     }
 
     private static void deepest() {
-        Object inner = Check.doc("a", 42);
+        Object innermost = Check.row(42, "t");
         for (int i = 0; i < 7; i++) {
-            inner = Check.doc("a", Check.row(inner));
+            innermost = Check.row(Check.doc("a", innermost));
         }
-        leaves(Check.doc("a", inner), "a.a.a.a.a.a.a.a", false, ROW);
+        leaves(Check.doc("a", innermost), "a.a.a.a.a.a.a.a", false, ROW);
+        leaves(Check.doc("a", innermost), "a.a.a.a.a.a.a.a", true, ROW, 42, TEXT);
         Object numbered = Check.row(42);
         for (int i = 0; i < 6; i++) {
             numbered = Check.row(numbered);
         }
         leaves(Check.doc("a", numbered), "a.0.0.0.0.0.0.0", false, 42);
         leaves(Check.doc("a", numbered), "a.0.0.0.0.0.0", true, ROW, 42);
+    }
+
+    private static void longestStep() {
+        leaves(Check.doc("", 5, "x", 6), "x".repeat(2000), false, MISS);
+        leaves(Check.doc("x".repeat(900), 7), "x".repeat(900), false, 7);
+        leaves(Check.doc("x".repeat(900), 7), "x".repeat(901), false, MISS);
     }
 }
