@@ -268,16 +268,17 @@ public final class ValueOrder {
             return kind == ROW ? isDecimal(added, count) : elementNamed(added) == null;
         }
 
+        /** Whether these are the number's digits: all of them, and no 0 ahead. */
         private static boolean isDecimal(byte[] digits, int number) {
             int rest = number;
-            for (int i = digits.length - 1; i > 0; i--) {
-                if (digits[i] != '0' + rest % 10) {
+            for (int i = digits.length - 1; i >= 0; i--) {
+                boolean zeroAhead = rest == 0 && i < digits.length - 1;
+                if (zeroAhead || digits[i] != '0' + rest % 10) {
                     return false;
                 }
                 rest /= 10;
             }
-            boolean zeroAhead = rest == 0 && digits.length > 1;
-            return digits.length > 0 && !zeroAhead && digits[0] == '0' + rest;
+            return rest == 0 && digits.length > 0;
         }
     }
 

@@ -57,6 +57,13 @@ final class Model {
         }
     }
 
+    /** What read answers to these bytes, all of them. */
+    static int elementsIn(byte[] bytes) {
+        Model model = new Model();
+        model.tape = bytes;
+        return model.read(0, bytes.length);
+    }
+
     /** The bytes must be those of the document, no more. */
     private static Val nest(int kind, byte[] bytes, int depth) throws Bad {
         ByteBuffer in = ByteBuffer.wrap(bytes).order(ByteOrder.LITTLE_ENDIAN);

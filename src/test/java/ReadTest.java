@@ -18,6 +18,7 @@ public final class ReadTest {
         texts();
         names();
         rows();
+        namesOfItems();
         depth();
         utf8Characters();
         cutDocuments();
@@ -214,6 +215,28 @@ public final class ReadTest {
             other[at] = at + "0";
             wrong("a 0 behind at " + at, rowNamed(other));
         }
+    }
+
+    /** Behind that many right items, one that bears each byte, alone and ahead of the right digits' end. */
+    private static void namesOfItems() {
+        for (int number : new int[] {0, 1, 9, 10, 11, 17, 52, 79, 99, 100, 109, 110, 111, 199, 200}) {
+            String digits = Integer.toString(number);
+            for (char c = 1; c < 128; c++) {
+                for (int kept = 0; kept <= digits.length(); kept++) {
+                    itemNamed(number, c + digits.substring(digits.length() - kept));
+                    itemNamed(number, digits.substring(0, kept) + c);
+                }
+            }
+        }
+    }
+
+    private static void itemNamed(int number, String last) {
+        String[] names = new String[number + 1];
+        for (int i = 0; i < number; i++) {
+            names[i] = Integer.toString(i);
+        }
+        names[number] = last;
+        right("item " + number + " named " + last, rowNamed(names), last.equals(Integer.toString(number)) ? 1 : -1);
     }
 
     private static Object nested(int deep, boolean rows) {
