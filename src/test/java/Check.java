@@ -161,6 +161,11 @@ final class Check {
         return x.read(slot, bytes.length);
     }
 
+    /** What read answers to these bytes, in a new object. */
+    static void reads(String what, byte[] bytes, int want) {
+        due(what, readBytes(new ValueOrder(), 0, bytes), want);
+    }
+
     static int readDoc(ValueOrder x, int slot, Doc doc) {
         return readBytes(x, slot, encode(doc));
     }

@@ -63,7 +63,7 @@ public final class LanguageTest {
 
     private static void privates(Class<?> type, Set<String> names) {
         for (Method method : type.getDeclaredMethods()) {
-            if (!Modifier.isPublic(method.getModifiers())) {
+            if (Modifier.isPrivate(method.getModifiers())) {
                 Check.due("no name of a public one: " + method, names.contains(method.getName()), false);
             }
             Check.due("parameters of " + method, method.getParameterCount() <= 7, true);
@@ -76,21 +76,24 @@ public final class LanguageTest {
 
     private static void classesInside() {
         Class<?>[] inside = ValueOrder.class.getDeclaredClasses();
-        Check.due("at most twelve classes", inside.length < 12, true);
+        Check.due("at most some twelve classes", inside.length <= 12, true);
         for (Class<?> type : inside) {
             Check.due("static " + type, Modifier.isStatic(type.getModifiers()), true);
-            Check.due("at most twenty fields in " + type, type.getDeclaredFields().length <= 20, true);
+            long fields = Arrays.stream(type.getDeclaredFields()).filter(f -> !Modifier.isStatic(f.getModifiers())).count();
+            Check.due("at most some twenty fields in " + type, fields <= 20, true);
         }
     }
 
     private static void words(String source) {
         String code = source.replaceAll("(?s)/\\*.*?\\*/", "").replaceAll("//[^\n]*", "");
+        // The arrow of a switch is no lambda.
+        code = code.replaceAll("\\b(case [^:;{}]*?|default) ->", "");
         Matcher banned = Pattern.compile("\\b(throw|throws|try|catch|finally|synchronized|assert|package|protected|"
-                + "hashCode|System\\.(?!arraycopy)\\w+|Random|Thread|float|double|\\w+Exact)\\b|->|::").matcher(code);
+                + "hashCode|System\\.(?!arraycopy)\\w+|Random|Thread|\\w+Exact)\\b|->|::").matcher(code);
         Check.due("word outside the language", banned.find(), false);
         Matcher imports = Pattern.compile("import ([\\w.*]+);").matcher(code);
         while (imports.find()) {
-            Check.due("import " + imports.group(1), imports.group(1).matches("java\\.util\\.(Arrays|ArrayList|List)"), true);
+            Check.due("import " + imports.group(1), imports.group(1).matches("java\\.util\\.(Arrays|ArrayList|List|Iterator)"), true);
         }
     }
 }
