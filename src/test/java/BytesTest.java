@@ -243,7 +243,8 @@ public final class BytesTest {
                 right(deep + " behind others", Check.encode(Check.doc("a", nested(15, 0, null), "b", nested(15, -1, 7), "c",
                         nested(deep, rows, null))), want == 1 ? 3 : -1);
             }
-            right("15 in one, twice", Check.encode(Check.doc("a", Check.row(nested(14, rows, 1), nested(14, rows, null)))), 1);
+            Object twice = Check.row(nested(14, rows, 1), nested(14, rows, null));
+            right("14 in a row in one, twice", Check.encode(Check.doc("a", twice)), 1);
             wrong("100 in one", Check.encode(Check.doc("a", nested(100, rows, null))));
             wrong("200 in one", Check.encode(Check.doc("a", nested(200, rows, 7))));
         }

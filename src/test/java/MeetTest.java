@@ -104,7 +104,8 @@ public final class MeetTest {
         meets("500 by an item", Many.withTail(247, 0, Check.row(7)), Many.only(7), true, true);
         meets("501 by an item", Many.withTail(247, 0, Check.row(8, 7)), Many.only(7), true, false);
         meets("501 by an item, the same being the first", Many.withTail(247, 0, Check.row(7, 8)), Many.only(7), true, false);
-        meets("501, the same being the first leaf", Many.withItems(248, 1), Many.only(Check.doc("0", Check.row())), true, false);
+        meets("500, the same being among the first", Many.withItems(248, 0), Many.only(null), true, true);
+        meets("501, the same being among the first", Many.withItems(248, 1), Many.only(null), true, false);
     }
 
     private static void moreThanFiveHundredLeaves() {

@@ -14,6 +14,7 @@ public final class PathTest {
         oldBytesAreNotThere();
         noPathStaysNone();
         pathStaysWhenThereIsNone();
+        restStays();
         newPathTakesTheOldOnesPlace();
         Check.end();
     }
@@ -178,6 +179,23 @@ public final class PathTest {
             Check.due("list by the path that stayed", x.list(0, 0, false), 1);
             Check.due("value by the path that stayed", x.value(0, 0, 2), 1);
         }
+    }
+
+    private static ValueOrder busyWithEmptyTape() {
+        ValueOrder x = State.busy();
+        x.read(0, 0);
+        return x;
+    }
+
+    /** Slots and lists: neither bytes that are no path change them nor a path does. */
+    private static void restStays() {
+        State.stays("path of wrong bytes", PathTest::busyWithEmptyTape, x -> Check.takePath(x, "b."));
+        State.stays("path of no bytes", PathTest::busyWithEmptyTape, x -> x.path(0));
+        State.stays("the path that there is", PathTest::busyWithEmptyTape, x -> Check.takePath(x, "a"));
+        State.stays("another path and back", PathTest::busyWithEmptyTape, x -> {
+            Check.takePath(x, "b.c");
+            Check.takePath(x, "a");
+        });
     }
 
     private static void newPathTakesTheOldOnesPlace() {

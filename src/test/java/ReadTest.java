@@ -13,6 +13,7 @@ public final class ReadTest {
         tapeIsEmptyBehindNone();
         oldBytesAreNotThere();
         slotStaysWhenThereIsNone();
+        restStays();
         otherSlotsStay();
         Check.end();
     }
@@ -155,6 +156,24 @@ public final class ReadTest {
             x.list(0, slot, false);
             Check.due("its values stay", x.value(0, 0, 2), 2);
         }
+    }
+
+    private static ValueOrder busyWithEmptyTape() {
+        ValueOrder x = State.busy();
+        x.path(0);
+        return x;
+    }
+
+    /** Slots, path and lists: bytes that are no document change none of them, and a document its slot alone. */
+    private static void restStays() {
+        for (int slot = 0; slot < 4; slot++) {
+            int into = slot;
+            State.stays("read of wrong bytes", ReadTest::busyWithEmptyTape,
+                    x -> Check.readBytes(x, into, Check.bytes(5, 0, 0, 0, 1)));
+            State.stays("read of no bytes", ReadTest::busyWithEmptyTape, x -> x.read(into, 0));
+        }
+        State.stays("read of what the slot holds", ReadTest::busyWithEmptyTape,
+                x -> Check.readDoc(x, 1, Check.doc("a", 2, "b", 3)));
     }
 
     private static void otherSlotsStay() {

@@ -15,6 +15,7 @@ public final class SortTest {
         longestListOfTwo();
         longestListFromBehind();
         onlyThatList();
+        restStays();
         noSuchListDoesNothing();
         Check.end();
     }
@@ -239,6 +240,11 @@ public final class SortTest {
         order("sorted", x, 1, 2, 1, 0);
         Check.due("the slot stays", x.list(0, 0, true), 3);
         Check.due("the row's first item", x.value(0, 1, 2), 2);
+    }
+
+    /** List 0 of a busy object is sorted already, and nothing else takes part in sorting. */
+    private static void restStays() {
+        State.stays("sort of a sorted list", State::busy, x -> x.sort(0));
     }
 
     /** "-1 when there is no such list". */
